@@ -227,6 +227,11 @@ public final class PromiseTest {
         due("feed of a full tape", x.feed(0x7878787878787878L, 0, 0x78), 1000);
         due("group of a full tape", x.group(), 0);
         due("count(1)", x.count(1), 3);
+        due("group of 1,000 tokens", Check.group(x, ";".repeat(1000)), 1);
+        due("group that ends in a number", Check.group(x, " ".repeat(998) + "12345"), 1 + 16 * 998);
+        due("group that ends in a word", Check.group(x, " ".repeat(999) + "keys"), 1 + 16 * 999);
+        due("work that ends in a number", Check.work(x, "\n".repeat(994) + "run 12345"), 4 + 16 * 998);
+        due("a law as long as can be", Check.group(x, "clashes 1" + "+1".repeat(495) + ";"), 0);
     }
 
     // Promise 3
@@ -249,6 +254,11 @@ public final class PromiseTest {
         due("group of replicas alone", Check.group(x, "replicas 3;"), 0);
         due("count(3)", x.count(3), 7);
         due("drives without commands", x.drives(1, 9, 0), 0);
+        LeaderlessOrder y = Check.made("replicas 3;keys 1;command az put key 0 value 1 at 2;"
+                + "command za get key 0 value 2 at 1;");
+        due("work by names", Check.work(y, "propose za;ask za 0;decide za;run 1;"), 0);
+        due("judged(0): za is led by 1", y.judged(0), NONE);
+        due("judged(2)", y.judged(2), 1);
     }
 
     private static void groupFaults() {
@@ -349,7 +359,7 @@ public final class PromiseTest {
         String[] so = {"low=10", "high=30", "apart=3", "not same", "2+3*2=8", "0 and 1 or 1", "(5 and 3)=1",
             "(7 or 0)=1", "(0 or 0)=0", "not 5=0", "not(5=0)", "1<2", "0-5<0", "0-1", "256*256*256*128<0",
             "9999*9999*9999+0=1674919423-1", "10-3-2=5", "low*3=high", "high-low*apart+1", "not 0*2=2", "same<1",
-            "3=3 and 2<3", "1+1<1+2", "not not 7=1"};
+            "3=3 and 2<3", "1+1<1+2", "not not 7=1", "(1<2)+(1=1)=2", "(3 and 4)+(0 or 9)+not 0=3"};
         for (String e : so) {
             LeaderlessOrder x = Check.made(LAWFUL + "clashes " + e.replace("1674919423-1", wrapped()) + ";");
             due("clash(0, 1) by " + e, x.clash(0, 1), true);
@@ -375,10 +385,20 @@ public final class PromiseTest {
     }
 
     private static void groupBeginsAnew() {
+        LeaderlessOrder z = Check.made(LAWFUL + "clashes 1;");
+        due("clash(0, 1)", z.clash(0, 1), true);
+        due("a faulty law", Check.group(z, LAWFUL + "clashes 1"), 1 + 16 * (LAWFUL.length() + 9));
+        due("clash(0, 1) behind a fault", z.clash(0, 1), true);
+        due("a group without a law", Check.group(z, LAWFUL), 0);
+        due("clash(0, 1) without a law", z.clash(0, 1), false);
+        due("a group with a law again", Check.group(z, "clashes 0 or high=30;" + LAWFUL), 0);
+        due("clash(0, 1) by another law", z.clash(0, 1), true);
         LeaderlessOrder x = twoCommitted();
         x.run(0);
         x.see(0, 1, true);
-        x.mark(1, false);
+        for (int i = 0; i < 4; i++) {
+            x.mark(i, false);
+        }
         x.down(2);
         due("work", Check.work(x, "clean;"), 0);
         due("a faulty group", Check.group(x, "keys"), 1 + 16 * 4);
@@ -393,7 +413,9 @@ public final class PromiseTest {
         for (int what = 0; what < want.length; what++) {
             due("count(" + what + ") of a group told anew", x.count(what), want[what]);
         }
-        due("mark(1, true) anew", x.mark(1, true), false);
+        for (int i = 0; i < 4; i++) {
+            due("mark(" + i + ", true) anew", x.mark(i, true), false);
+        }
         due("undo() anew", x.undo(), false);
         due("value(0, 0) anew", x.value(0, 0), 0);
         cell(x, 0, 0, 0, 0, 0, 0);
@@ -1286,6 +1308,17 @@ public final class PromiseTest {
         due("waits(2), RUN", x.waits(2), 0);
         x.down(1);
         due("waits(1), down", x.waits(1), 1);
+        LeaderlessOrder y = Check.made("replicas 3;keys 2;command a put key 0 value 1 at 0;"
+                + "command b put key 1 value 1 at 0;command c put key 0 value 1 at 1;"
+                + "command d put key 1 value 1 at 1;");
+        y.propose(0);
+        y.propose(1);
+        y.ask(0, 1);
+        y.ask(1, 1);
+        commitAtOnce(y, 2);
+        commitAtOnce(y, 3);
+        due("waits(1) for two, of two", y.waits(1), 3);
+        due("waits(0), they are ASKED", y.waits(0), 0);
         due("waits(3)", x.waits(3), NONE);
         for (int i : NO_INDEX) {
             due("waits(" + i + ")", x.waits(i), NONE);
@@ -1553,6 +1586,11 @@ public final class PromiseTest {
         x.up(2);
         due("tell(0, 1)", x.tell(0, 1), true);
         due("risk(0), all have it COMMITTED", x.risk(0), 0);
+        due("undo()", x.undo(), true);
+        x.down(0);
+        due("tell(0, 1) by 2", x.tell(0, 1), true);
+        cell(x, 1, 0, 3, 4, 0, 0);
+        due("risk(0), none is left to RECOVER it", x.risk(0), 0);
         LeaderlessOrder y = Check.made(FIVE);
         y.propose(0);
         for (int r = 1; r < 4; r++) {
@@ -1760,6 +1798,21 @@ public final class PromiseTest {
             due("mark(" + i + ", false)", x.mark(i, false), false);
             due("mark(" + i + ", true)", x.mark(i, true), false);
         }
+        LeaderlessOrder z = Check.made("replicas 3;keys 1;command a put key 0 value 5 at 0;"
+                + "command b get key 0 value 0 at 0;");
+        z.mark(0, false);
+        commitAtOnce(z, 0);
+        commitAtOnce(z, 1);
+        z.run(0);
+        z.mark(1, false);
+        z.mark(0, true);
+        commitAtOnce(z, 1);
+        z.run(0);
+        due("got(0, 1) the other way", z.got(0, 1), 0);
+        z.mark(1, true);
+        due("got(0, 1)", z.got(0, 1), 5);
+        due("value(0, 0)", z.value(0, 0), 5);
+        order(z, 0, "01");
         LeaderlessOrder y = new LeaderlessOrder();
         due("mark(0, false) without a group", y.mark(0, false), true);
         due("mark(0, true) without a group", y.mark(0, true), true);

@@ -209,6 +209,18 @@ public final class RandomRunsTest {
         return s.toString();
     }
 
+    /** A text as the language has it, then words and signs of it in no order, maybe beyond the TAPE. */
+    private String soup() {
+        String[] tokens = ("replicas keys command key value at clashes propose ask decide accept settle tell down up "
+                + "recover run clean put add get wipe not and or low high apart same a b 0 1 2 3 5 99 ( ) < = + - * ;")
+                .split(" ");
+        StringBuilder s = new StringBuilder(chance(50) ? "clashes " : chance(50) ? groupText() : workText());
+        for (int i = below(chance(80) ? 12 : 400); i > 0; i--) {
+            s.append(tokens[below(tokens.length)]).append(chance(80) ? " " : "");
+        }
+        return s.toString();
+    }
+
     private void feed(String text) {
         for (int i = 0; i < text.length(); i += 24) {
             long a = Check.eight(text, i);
@@ -223,6 +235,12 @@ public final class RandomRunsTest {
         for (int i = 0; i < 8 && chance(40); i++) {
             feed(spoilt(text));
             same("group", x.group(), y.group());
+        }
+        for (int i = 0; i < 10 && chance(50); i++) {
+            feed(soup());
+            same("group", x.group(), y.group());
+            feed(soup());
+            same("work", x.work(), y.work());
         }
         if (chance(5)) {
             long a = random.nextLong();
