@@ -2,14 +2,23 @@
 final class Check {
     private static int asked = 0;
     private static int wrong = 0;
+    private static String sentence = "";
 
     private Check() { }
+
+    /** The words of the document that the checks behind this one are of. */
+    static void says(String words) {
+        sentence = words;
+    }
 
     static void due(String call, long got, long want) {
         asked++;
         if (got != want) {
             wrong++;
             System.out.println(call + " answered " + got + ", due is " + want);
+            if (!sentence.isEmpty()) {
+                System.out.println("    the document: " + sentence);
+            }
         }
     }
 
