@@ -291,6 +291,7 @@ public final class QuestionEdgeTest {
                 + "ready(1)=3 plan(1,0)=0 plan(1,1)=1 plan(1,2)=NONE plan(1,7)=NONE plan(1,8)=NONE plan(1,-1)=NONE "
                 + "plan(1,MAX)=NONE plan(1,MIN)=NONE down(1)=true ready(1)=3 plan(1,1)=1 known(1,0,0)=3 value(1,0)=0 count(5)=0 "
                 + "up(1)=true run(1)=2 ready(1)=0 plan(1,0)=NONE ready(3)=NONE plan(3,0)=NONE");
+        made(THREE, TWO + "plan(0,0)=0 plan(1,0)=NONE tell(0,1)=true plan(1,1)=1 plan(0,0)=0 ready(2)=0 plan(1,0)=0");
         made(THREE, TWO + "run(0)=1 tell(1,0)=true ready(0)=2 plan(0,0)=1 plan(0,1)=NONE plan(0,7)=NONE plan(0,MAX)=NONE");
         made(THREE, TRIANGLE + "ready(0)=0 tell(1,0)=true ready(0)=0 tell(2,0)=true ready(0)=7 plan(0,0)=0 plan(0,1)=1 "
                 + "plan(0,2)=2 plan(0,3)=NONE");
@@ -334,6 +335,9 @@ public final class QuestionEdgeTest {
                 + "agree(2,2)=true tell(0,2)=true run(2)=1 agree(0,2)=true agree(1,2)=true tell(1,2)=true run(2)=1 agree(0,2)=true "
                 + "agree(1,2)=false down(1)=true agree(1,2)=false agree(0,3)=false agree(3,0)=false agree(3,3)=false "
                 + "agree(-1,-1)=false agree(MAX,MAX)=false");
+        // Not both have RUN the first one, or the second one.
+        made(PAIR, QUARREL + "tell(1,2)=true run(2)=1 agree(0,2)=true agree(2,0)=true agree(1,2)=true agree(2,1)=true");
+        made(PAIR, QUARREL + "tell(0,2)=true run(2)=1 agree(0,2)=true agree(2,0)=true agree(1,2)=true agree(2,1)=true");
         made(PAIR.replace("keys 1", "keys 2").replace("b put key 0", "b put key 1"), QUARREL + "order(0,0)=0 order(1,0)=1 "
                 + "agree(0,1)=true agree(1,0)=true");
     }
@@ -373,6 +377,8 @@ public final class QuestionEdgeTest {
                 + "stuck()=2 down(0)=true stuck()=0 up(1)=true stuck()=1 known(1,0,0)=1 up(0)=true stuck()=0");
         made(THREE, "down(0)=true down(1)=true stuck()=0");
         made(THREE, "recover(0,2)=0 recover(1,0)=0 down(0)=true down(1)=true stuck()=1");
+        made(FIVE, "propose(0)=1 ask(0,1)=1 ask(0,2)=1 ask(0,3)=1 decide(0)=1 tell(0,3)=true down(0)=true down(1)=true "
+                + "down(4)=true stuck()=1 down(2)=true up(4)=true stuck()=1 down(4)=true stuck()=0");
         String at = "propose(0)=1 ask(0,1)=1 ask(0,2)=1 ask(0,3)=1 decide(0)=1 tell(0,1)=true ";
         made(FIVE, at + "down(2)=true down(3)=true stuck()=0 down(4)=true stuck()=0 run(0)=1 stuck()=0 up(2)=true down(1)=true "
                 + "stuck()=1 up(4)=true stuck()=0 down(2)=true stuck()=1 known(4,0,0)=0 down(0)=true stuck()=0");
@@ -390,6 +396,8 @@ public final class QuestionEdgeTest {
         made(PAIR, TORN + "risk(0)=1 run(0)=1 run(2)=1 risk(0)=1 down(0)=true risk(0)=1 up(0)=true down(1)=true down(2)=true "
                 + "risk(0)=1 up(1)=true tell(0,1)=true risk(0)=0");
         made(SIDE, SIDE_TORN + "risk(2)=1");
+        // Without 0 none is left that would RECOVER it, though 1 and 2 have another SEQ.
+        made(PAIR, TORN + "down(0)=true tell(0,1)=true known(0,0,2)=1 known(1,0,2)=0 known(2,0,2)=0 risk(0)=0");
         // COMMITTED at 2 alone with SEQ 0: without 2 the first of equal BALLOTS has SEQ 1.
         made(PAIR, "propose(0)=1 recover(0,0)=1 down(0)=true recover(0,2)=0 accept(0,1)=2 settle(0)=true risk(0)=0 "
                 + "down(2)=true up(0)=true recover(0,1)=3 risk(0)=1");
@@ -403,6 +411,11 @@ public final class QuestionEdgeTest {
         // Told, 1 has it COMMITTED, too: then 0 is the first without 1 and 4 alone.
         made(FIVE, ends + "recover(0,1)=3 risk(0)=3 up(4)=true risk(0)=3 tell(0,1)=true risk(0)=1 tell(0,0)=true risk(0)=0");
         made(FIVE, "propose(0)=1 ask(0,1)=1 ask(0,2)=1 ask(0,3)=1 decide(0)=1 risk(0)=0");
+        // b has SEQ 1 at 1, SEQ 0 at 2, 3, 4; 0 alone would RECOVER it, otherwise if 1 and one of 2, 3, 4 are lost.
+        made(FIVE, "propose(1)=1 recover(1,1)=1 down(0)=true down(1)=true recover(1,4)=0 accept(1,2)=2 accept(1,3)=3 "
+                + "settle(1)=true down(4)=true up(0)=true up(1)=true recover(1,2)=3 recover(1,1)=3 accept(1,2)=2 "
+                + "accept(1,3)=3 settle(1)=true up(4)=true down(1)=true tell(1,2)=true tell(1,3)=true known(1,1,2)=1 "
+                + "known(2,1,2)=0 known(3,1,2)=0 known(0,1,0)=0 risk(1)=3");
     }
 
     // ---- promises 41 to 46 ----
@@ -544,6 +557,13 @@ public final class QuestionEdgeTest {
         Check.due("all is as it was", Calls.all(x).equals(later), true);
         Calls.due(x, "mark(2,true)=true");
         Check.due("all is as it was", Calls.all(x).equals(old), true);
+        // What a COMMAND has GOT is held, too.
+        String a = "propose(0)=1 ask(0,1)=1 decide(0)=1 ";
+        LeaderlessOrder y = made("replicas 3;keys 1;command a put key 0 value 5 at 0;command b get key 0 value 0 at 0;",
+                "mark(0,false)=true " + a + "propose(1)=2 ask(1,1)=1 decide(1)=1 run(0)=2 got(0,1)=5 mark(1,false)=true "
+                + "mark(0,true)=true got(0,1)=NONE propose(1)=1 ask(1,1)=1 decide(1)=1 run(0)=1 got(0,1)=0 mark(2,false)=true "
+                + "mark(1,true)=true got(0,1)=5 mark(2,true)=true got(0,1)=0 order(0,0)=1");
+        Calls.due(y, "mark(1,true)=true order(0,0)=0 order(0,1)=1 value(0,0)=5");
     }
 
     private static void count() {

@@ -25,6 +25,7 @@ public final class ReadingEdgeTest {
         replicas();
         keys();
         commands();
+        eachToken();
         once();
         workLines();
         workRoom();
@@ -122,6 +123,12 @@ public final class ReadingEdgeTest {
         due("1,000 signs, more behind", Check.group(y, "keys 2" + " ".repeat(993) + ";" + "xyz"), 0);
         due("count(1)", y.count(1), 2);
         due("the last sign is the 1,001st", Check.group(y, "keys 2" + " ".repeat(994) + ";"), 1 + 16 * 1000);
+        due("1,000 tokens", Check.group(y, ";".repeat(1000)), 1);
+        due("1,000 tokens, a FAULT at the last", Check.group(y, "clashes 1" + "+1".repeat(495) + "+"), 1 + 16 * 1000);
+        due("a law of 992 tokens", Check.group(y, "clashes 1" + "+1".repeat(495) + ";"), 0);
+        due("a law of 992 tokens, nested", Check.group(y, "clashes ((((" + "1".repeat(4) + "+0".repeat(490) + "))))"),
+                1 + 16 * 1000);
+        due("a group of its own", Check.group(y, "keys 2;"), 0);
         due("a work of 1,000 signs", Check.work(y, "clean" + "\n".repeat(994) + ";;;"), 0);
         due("a work, its last sign beyond", Check.work(y, "clean" + "\n".repeat(995) + ";"), 1 + 16 * 1000);
     }
@@ -162,6 +169,16 @@ public final class ReadingEdgeTest {
         due("group of what is empty", x.group(), 0);
         due("it is a GROUP, too", x.count(1), 0);
         due("work of what is empty", x.work(), 0);
+        // Nothing of an older, longer text stands behind a later one.
+        String[][] rows = {{"keys 11;", "keys 1", "1", "6"}, {"keys 4444;", "keys 4", "1", "6"},
+            {"keyss;", "keys", "1", "4"}, {"replicas 3;", "rep", "1", "0"}, {"replicas 4;", "replicas keys;", "1", "9"},
+            {"clashes 1;", "clashes", "1", "7"}, {"keys 1;keys 1;", "keys 1", "1", "6"}};
+        for (String[] row : rows) {
+            LeaderlessOrder y = new LeaderlessOrder();
+            Check.group(y, row[0]);
+            due("group of " + row[1] + " behind " + row[0], Check.group(y, row[1]),
+                    Integer.parseInt(row[2]) + 16 * Integer.parseInt(row[3]));
+        }
     }
 
     private static void feedOrder() {
@@ -215,6 +232,8 @@ public final class ReadingEdgeTest {
         bad(1, "keys @00000000000000000004;");
         bad(4, "keys @9999;");
         bad(1, "keys @10000;");
+        bad(1, "replicas @00004;");
+        bad(1, "replicas @00003;");
         bad(1, "keys @4294967297;");
         due("a letter right behind", good("replicas 3;keys 2;command a put key 1value 7at 2;").command(0, 2), 7);
         clash("1and 1", true);
@@ -323,6 +342,36 @@ public final class ReadingEdgeTest {
         due("in another order", good("clashes 0;keys 1;replicas 3;command a put key 0 value 0 at 0;").count(2), 1);
     }
 
+    private static void eachToken() {
+        says("command NAME KIND key N value N at N ; / 1 it is none, or can't stand there");
+        eachToken("replicas 3;keys 2;", "command b get key 1 value 5 at 2 ;".split(" "));
+        eachToken("", "replicas 3 ;".split(" "));
+        eachToken("", "keys 3 ;".split(" "));
+    }
+
+    /** A statement with one token left out, told twice, or another one in its place: that, or the next one, can't stand. */
+    private static void eachToken(String head, String[] line) {
+        good(head + String.join(" ", line));
+        for (int i = 0; i < line.length; i++) {
+            String left = head;
+            String right = "";
+            for (int k = 0; k < line.length; k++) {
+                left += k < i ? line[k] + " " : "";
+                right += k > i ? " " + line[k] : "";
+            }
+            boolean isNumber = Character.isDigit(line[i].charAt(0));
+            for (String no : new String[] {"(", "=", "?", "not", "keyz", "Key", "12345", isNumber ? "b" : "1"}) {
+                if (!(no.equals("keyz") && line[i].equals("b"))) {
+                    bad(1, left + "@" + no + right);
+                }
+            }
+            if (i > 0) {
+                bad(1, left + line[i] + " @" + line[i] + right);
+            }
+            bad(1, left + "@" + right.trim());
+        }
+    }
+
     private static void once() {
         says("replicas, keys, clashes: once each / 3 [...] replicas, keys, clashes a second time");
         for (int n : new int[] {0, 3, 4, 5}) {
@@ -425,6 +474,13 @@ public final class ReadingEdgeTest {
             group.append("command ").append(name).append(tail);
         }
         due("names that are not alike", good(group.toString()).count(2), 8);
+        for (char c = 'a'; c <= 'z'; c++) {
+            StringBuilder same = new StringBuilder("replicas 3;keys 1;");
+            for (int many = 1; many <= 8; many++) {
+                same.append("command ").append(("" + c).repeat(many)).append(tail);
+            }
+            due("names of one letter " + c, good(same.toString()).count(2), 8);
+        }
         for (int i = 0; i < 7; i++) {
             bad(3, group.substring(0, group.indexOf("command h")) + "command @" + all[i] + tail);
         }
@@ -544,7 +600,19 @@ public final class ReadingEdgeTest {
         clash("256*256*256*128", true);
         clash("256*256*256*256", false);
         clash("2048*2048*1024", false);
+        clash("not not 0", false);
+        Check.due("0 is 0, of one LEADER", good(TWO.replace("at 1", "at 0") + "clashes 0;").clash(0, 1), false);
         says("Without clashes: 0");
+        LeaderlessOrder x = good(TWO + "clashes 1;");
+        due("a group without a law", Check.group(x, TWO), 0);
+        Calls.due(x, "clash(0,1)=false clash(1,0)=false lone()=3");
+        due("a law with a FAULT", Check.group(x, "clashes 1"), 1 + 16 * 9);
+        due("a group without a law", Check.group(x, TWO), 0);
+        Calls.due(x, "clash(0,1)=false clash(1,0)=false");
+        due("a group with a law", Check.group(x, TWO + "clashes 1;"), 0);
+        Calls.due(x, "clash(0,1)=true clash(1,0)=true");
+        due("a group with another law", Check.group(x, "clashes 1 and 0;" + TWO), 0);
+        Calls.due(x, "clash(0,1)=false clash(1,0)=false");
         Check.due("clash without a law", good(TWO).clash(0, 1), false);
         Check.due("clash with a law ahead of the COMMANDS", good("clashes 1;" + TWO).clash(0, 1), true);
     }
@@ -599,13 +667,15 @@ public final class ReadingEdgeTest {
 
     // ---- what comes of it ----
 
+    private static final String USED = "replicas 3;keys 1;command a put key 0 value 5 at 0;"
+            + "command b put key 0 value 7 at 1;command c put key 0 value 9 at 2;";
+
     /** All that a GROUP told anew must put back is another way here. */
     private static LeaderlessOrder used() {
-        LeaderlessOrder x = Check.made("replicas 3;keys 1;command a put key 0 value 5 at 0;"
-                + "command b put key 0 value 7 at 1;");
+        LeaderlessOrder x = Check.made(USED);
         Calls.due(x, "propose(0)=1 ask(0,1)=1 decide(0)=1 tell(0,1)=true tell(0,2)=true run(0)=1 run(1)=1 run(2)=1 "
-                + "clean()=1 propose(1)=1 recover(1,2)=1 see(0,1,true)=true mark(0,false)=true mark(3,false)=true "
-                + "down(1)=true count(8)=12");
+                + "clean()=1 propose(1)=1 ask(1,2)=1 propose(2)=2 known(2,2,3)=2 recover(1,2)=2 see(0,1,true)=true "
+                + "mark(0,false)=true mark(3,false)=true down(1)=true count(8)=14");
         due("work", Check.work(x, "clean;clean;"), 0);
         return x;
     }
@@ -629,10 +699,8 @@ public final class ReadingEdgeTest {
         Calls.due(x, "command(0,0)=2 command(0,4)=4 command(1,4)=3 command(2,4)=2 command(0,5)=0 command(1,5)=0 "
                 + "command(1,6)=0 command(0,7)=0 judged(0)=NONE clash(0,1)=true clash(1,2)=false");
         LeaderlessOrder y = used();
-        due("the same group", Check.group(y, "replicas 3;keys 1;command a put key 0 value 5 at 0;"
-                + "command b put key 0 value 7 at 1;"), 0);
-        String fresh = Calls.all(Check.made("replicas 3;keys 1;command a put key 0 value 5 at 0;"
-                + "command b put key 0 value 7 at 1;"));
+        due("the same group", Check.group(y, USED), 0);
+        String fresh = Calls.all(Check.made(USED));
         Check.due("all as at first, " + Calls.all(y), Calls.all(y).equals(fresh), true);
         Calls.due(y, "count(8)=0 mark(0,true)=false mark(1,true)=false mark(2,true)=false mark(3,true)=false "
                 + "propose(1)=1");
@@ -646,7 +714,7 @@ public final class ReadingEdgeTest {
             String old = Calls.all(x);
             Check.due("a FAULT of " + no, Check.group(x, no) != 0, true);
             Check.due("all stays behind " + no, Calls.all(x).equals(old), true);
-            Calls.due(x, "count(8)=12 count(9)=0 clash(0,1)=true mark(1,true)=false");
+            Calls.due(x, "count(8)=14 count(9)=0 clash(0,1)=true mark(1,true)=false");
             due("the names stay", Check.work(x, "propose a;propose b;run 2;"), 0);
             Calls.due(x, "undo()=true count(3)=7 mark(3,true)=true count(8)=0 count(6)=0");
         }
@@ -664,9 +732,9 @@ public final class ReadingEdgeTest {
         due("a FAULT", Check.work(x, "clean;".repeat(41)), 5 + 16 * 240);
         due("a FAULT", Check.work(x, "down 2;run 2;clean"), 1 + 16 * 18);
         Check.due("all stays", Calls.all(x).equals(old), true);
-        Calls.due(x, "count(6)=2 count(8)=12 count(9)=0 judged(0)=NONE");
+        Calls.due(x, "count(6)=2 count(8)=14 count(9)=0 judged(0)=NONE");
         due("another WORK", Check.work(x, "up 0;"), 0);
-        Calls.due(x, "count(6)=1 judged(0)=0 count(8)=12 count(7)=1 mark(0,true)=true count(6)=0");
+        Calls.due(x, "count(6)=1 judged(0)=0 count(8)=14 count(7)=1 mark(0,true)=true count(6)=0");
         due("another WORK", Check.work(x, "clean;clean;clean;"), 0);
         due("an empty WORK", x.work(), 0);
         Calls.due(x, "count(6)=0");

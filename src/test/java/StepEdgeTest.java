@@ -263,6 +263,8 @@ public final class StepEdgeTest {
         says("accept: NONE: others");
         made(THREE, "recover(0,0)=0 accept(0,3)=NONE accept(0,-1)=NONE accept(0,MAX)=NONE accept(0,MIN)=NONE "
                 + "accept(4,1)=NONE accept(-1,1)=NONE accept(MAX,1)=NONE accept(MIN,1)=NONE count(8)=1 accept(0,2)=2");
+        made(THREE, "recover(0,1)=0 accept(0,32)=NONE accept(0,33)=NONE accept(0,34)=NONE accept(0,MIN)=NONE "
+                + "accept(0,-32)=NONE accept(0,-30)=NONE accept(0,2)=2");
         Calls.due(new LeaderlessOrder(), "accept(0,1)=NONE accept(0,0)=NONE");
     }
 
@@ -336,6 +338,11 @@ public final class StepEdgeTest {
         made(FIVE, "down(0)=true down(4)=true recover(0,2)=0 recover(0,2)=3 up(0)=true up(4)=true down(1)=true "
                 + "down(3)=true known(0,0,1)=0 known(2,0,1)=2 known(4,0,1)=0 recover(0,4)=3 known(0,0,1)=3 "
                 + "known(2,0,1)=3 known(4,0,1)=3 known(1,0,1)=2");
+        // The greatest one is the first one's, the last one's.
+        made(FIVE, "down(1)=true down(2)=true recover(0,0)=0 down(3)=true down(4)=true up(1)=true up(2)=true "
+                + "known(0,0,1)=1 known(1,0,1)=0 known(2,0,1)=0 recover(0,1)=3 known(0,0,1)=2 known(1,0,1)=2 known(2,0,1)=2");
+        made(FIVE, "down(1)=true down(2)=true recover(0,0)=0 down(0)=true down(3)=true up(1)=true up(2)=true "
+                + "known(4,0,1)=1 known(1,0,1)=0 recover(0,1)=0 known(4,0,1)=2 known(1,0,1)=2 known(2,0,1)=2 known(0,0,1)=1");
         made(THREE, "propose(0)=1 ask(0,1)=1 decide(0)=1 recover(0,2)=4 known(0,0,1)=1 known(0,0,0)=3 known(1,0,1)=1 "
                 + "known(2,0,1)=1");
     }
@@ -392,6 +399,10 @@ public final class StepEdgeTest {
         // The same DEPS with another SEQ are not the same, nor are other DEPS with the same SEQ.
         made(five(CHAIN), CHAIN_ASKED + "ask(2,1)=1 ask(2,2)=0 finds(2,4)=1 ask(2,3)=1 recover(2,4)=2 known(4,2,2)=2");
         made(five(SIDE), SIDE_ASKED + "ask(2,1)=0 ask(2,2)=1 finds(2,4)=1 ask(2,3)=1 recover(2,4)=2 known(4,2,3)=1");
+        // The first one and the last one count, too.
+        made(THREE, "propose(1)=1 finds(1,2)=1 ask(1,0)=1 finds(1,2)=2 recover(1,2)=2 known(2,1,2)=1");
+        made(THREE, "propose(1)=1 ask(1,2)=1 finds(1,0)=2");
+        made(FIVE, "propose(1)=1 ask(1,0)=1 finds(1,2)=1 ask(1,4)=1 finds(1,2)=2");
         says("(of two such the first one's)");
         made(FIVE, "propose(1)=1 ask(1,2)=1 propose(0)=1 ask(0,1)=0 ask(0,2)=0 ask(0,3)=1 ask(0,4)=1 recover(0,4)=2 "
                 + "known(4,0,2)=2 known(4,0,3)=2");
@@ -408,6 +419,12 @@ public final class StepEdgeTest {
         made(FIVE, "propose(1)=1 propose(0)=1 ask(0,1)=0 down(0)=true down(2)=true recover(0,4)=1 known(4,0,2)=2 "
                 + "known(4,0,3)=2");
         made(five(SIDE), SIDE_ASKED + "ask(2,1)=0 ask(2,2)=1 recover(2,4)=1 known(4,2,2)=2 known(4,2,3)=3");
+        made(THREE, "propose(1)=1 propose(0)=1 recover(1,2)=1 known(2,1,2)=2 known(2,1,3)=1");
+        made(THREE, "propose(1)=1 propose(2)=1 recover(1,0)=1 known(0,1,2)=2 known(0,1,3)=4");
+        // 1 has what the LEADER had among the DEPS, and does not know of it itself.
+        made(FIVE.replace("c get key 0 value 0 at 2", "c get key 0 value 0 at 0"), "propose(2)=1 propose(0)=2 ask(0,1)=1 "
+                + "down(0)=true known(1,0,3)=4 known(1,2,0)=0 recover(0,3)=1 known(3,0,2)=2 known(3,0,3)=4 up(0)=true "
+                + "recover(1,3)=0 known(3,1,2)=0 known(3,1,3)=0");
         says("SEQ: the greatest of their SEQS and of what it is BEHIND at any that is up");
         made(five(CHAIN), CHAIN_ASKED + "ask(2,1)=1 ask(2,2)=0 recover(2,4)=1 known(4,2,2)=3 known(4,2,3)=1");
         made(THREE, "propose(0)=1 recover(0,1)=1 known(1,0,2)=1 known(1,0,3)=0");
@@ -591,10 +608,10 @@ public final class StepEdgeTest {
         for (int i = 0; i < 8; i++) {
             Calls.due(y, "down(1)=true down(1)=false propose(1)=NONE up(1)=true tell(0,0)=false undo()=true up(1)=true");
         }
-        Calls.due(y, "count(8)=16 settle(0)=false decide(0)=NONE ask(0,1)=NONE recover(9,0)=NONE accept(0,0)=NONE "
-                + "run(7)=NONE count(8)=16 down(2)=true count(8)=16");
+        Calls.due(y, "count(8)=16 down(2)=true count(8)=16 settle(0)=false decide(0)=NONE ask(0,1)=NONE recover(9,0)=NONE "
+                + "accept(0,0)=NONE propose(9)=NONE tell(0,1)=false down(2)=false up(0)=false run(2)=NONE count(8)=16");
         for (int i = 0; i < 16; i++) {
-            Calls.due(y, "undo()=true");
+            Calls.due(y, "undo()=true count(3)=" + (i % 2 == 0 ? 7 : 5));
         }
         Calls.due(y, "undo()=false count(3)=5");
     }
