@@ -61,6 +61,7 @@ public final class QuestionEdgeTest {
         mark();
         markHolds();
         count();
+        askingChangesNothing();
         Check.end("QuestionEdgeTest");
     }
 
@@ -576,5 +577,35 @@ public final class QuestionEdgeTest {
         Check.feed(x, "keys ");
         Calls.due(x, "count(0)=3 count(1)=1 count(2)=2 count(3)=5 count(4)=3 count(5)=6 count(6)=3 count(7)=1 count(8)=16 "
                 + "count(9)=5 count(10)=NONE count(-1)=NONE count(MAX)=NONE count(MIN)=NONE");
+    }
+
+    private static void askingChangesNothing() {
+        says("Nothing is promised beyond the answers and state changes described above");
+        String[][] rows = {{PAIR, QUARREL}, {PAIR, TORN}, {SIDE, SIDE_TORN}, {THREE, TWO}, {THREE, TRIANGLE},
+            {THREE, TRIANGLE + "tell(1,0)=true tell(2,0)=true down(1)=true "}, {FIVE, "propose(0)=1 down(1)=true "}};
+        String[] questions = ("command(0,5) known(1,0,2) replica(0,3) order(0,0) value(0,0) got(0,1) clash(0,1) judged(0) "
+                + "judged(1) judged(2) lone() heap(0) union(0,0) union(0,1) quick(0) quick(1) waits(0) waits(2) ready(0) "
+                + "ready(1) ready(2) plan(0,0) plan(1,0) part(0,0) one(0) agree(0,1) before(0,0,1) bare(2) level(0) stuck() "
+                + "finds(0,0) finds(0,1) finds(1,1) finds(1,2) risk(0) risk(1) who() look() drives(3,99,0) drives(4,99,1) "
+                + "drives(5,99,2) count(8)").split(" ");
+        String[] refused = ("propose(9) ask(0,9) decide(9) accept(9,0) settle(9) tell(0,9) down(9) up(9) recover(0,9) run(9) "
+                + "see(0,0,true) mark(4,false) mark(3,true)").split(" ");
+        for (String[] row : rows) {
+            LeaderlessOrder x = made(row[0], row[1] + "see(0,1,true)=true mark(0,false)=true");
+            Check.due("work", Check.work(x, "clean;run 0;up 1;"), 0);
+            Check.feed(x, "keys");
+            String old = Calls.all(x);
+            int steps = x.count(8);
+            for (String no : refused) {
+                Check.due(no + " is refused", Calls.answer(x, no).matches("-1|false"), true);
+                Check.due(no + " changes nothing", Calls.all(x).equals(old) && x.count(8) == steps, true);
+            }
+            for (String question : questions) {
+                String first = Calls.answer(x, question);
+                Check.due(question + " changes nothing", Calls.all(x).equals(old) && x.count(8) == steps, true);
+                Check.due(question + " answers the same again", Calls.answer(x, question).equals(first), true);
+            }
+            Check.due("signs", x.count(9), 4);
+        }
     }
 }
