@@ -695,6 +695,13 @@ public final class LeaderlessOrder {
         final Word[] word = new Word[ROOM + 1];
         int tokens;
 
+        // A reader may then look at any place of the row: there is a Word on each, cut or not.
+        Tape() {
+            for (int i = 0; i <= ROOM; i++) {
+                word[i] = Word.OTHER;
+            }
+        }
+
         void add(char sign) {
             if (length < ROOM && (sign == 10 || sign >= 32 && sign <= 126)) {
                 signs[length] = sign;
